@@ -494,7 +494,8 @@ public final class OrdersMadeOne {
         final int[] lengths = new int[Program.MOST];
         int byteCount;
         final int[] written = new int[MOST_BYTES];
-        private final boolean[] begins = new boolean[Program.MOST];
+        /** For each place the CODE that begins there, or NONE. */
+        private final int[] codesAt = new int[Program.MOST];
 
         boolean hasCode(int k) {
             return there && k >= 0 && k < codeCount;
@@ -505,7 +506,7 @@ public final class OrdersMadeOne {
         }
 
         boolean beginsAt(int place) {
-            return begins[place];
+            return codesAt[place] != NONE;
         }
 
         void make(Program source, Ways ways) {
@@ -515,7 +516,7 @@ public final class OrdersMadeOne {
             byteCount = 0;
             int next = 0;
             for (int place = 0; place < program.size; place++) {
-                begins[place] = place == next;
+                codesAt[place] = place == next ? codeCount : NONE;
                 if (place == next) {
                     beginCode(place, ways.numbers[place], ways.lengths[place]);
                     next += ways.lengths[place];
@@ -548,7 +549,7 @@ public final class OrdersMadeOne {
             System.arraycopy(other.lengths, 0, lengths, 0, Program.MOST);
             byteCount = other.byteCount;
             System.arraycopy(other.written, 0, written, 0, MOST_BYTES);
-            System.arraycopy(other.begins, 0, begins, 0, Program.MOST);
+            System.arraycopy(other.codesAt, 0, codesAt, 0, Program.MOST);
         }
     }
 
