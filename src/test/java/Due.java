@@ -20,8 +20,8 @@ final class Due {
     static final int NONE = OrdersMadeOne.NONE;
 
     /** Numbers that lie at edges, and beside them. */
-    static final int[] ODD = {Integer.MIN_VALUE, Integer.MIN_VALUE + 1, -129, -128, -2, -1, 0, 1, 2, 3, 4, 5, 6, 7, 8, 9,
-        10, 12, 13, 15, 16, 23, 24, 25, 39, 40, 41, 127, 128, 255, 256, 19999, 20000, 20001,
+    static final int[] ODD = {Integer.MIN_VALUE, Integer.MIN_VALUE + 1, -129, -128, -2, -1, 0, 1, 2, 3, 4, 5, 6, 7, 8,
+        9, 10, 12, 13, 15, 16, 23, 24, 25, 39, 40, 41, 127, 128, 255, 256, 19999, 20000, 20001,
         Integer.MAX_VALUE - 1, Integer.MAX_VALUE};
 
     private static int wrong = 0;

@@ -42,8 +42,12 @@ public final class ImageTest {
         Due.due(what + ": joined", x.joined(0, 1), Due.OUT);
         Due.dueChosen(what, x, Due.row(Due.PUSH, Due.SET, Due.PUSH, Due.GO));
         Due.dueCodes(what, x, 2, 1, 1, 1, 1);
+        Due.due(what + ": number", x.code(0, 0), 16);
         Due.due(what + ": byte", x.bytes(1), 5);
         Due.due(what + ": ran", x.ran(0), 6);
+        Due.due(what + ": begun", x.ran(1), 6);
+        Due.due(what + ": pile", x.ran(2), 1);
+        Due.due(what + ": out", x.ran(3), 1);
         Due.due(what + ": place", x.ran(4), 6);
         Due.due(what + ": pile", x.had(0, 0), 7);
         Due.due(what + ": out", x.had(1, 0), 5);
@@ -57,6 +61,8 @@ public final class ImageTest {
 
     private static void changeAll(OrdersMadeOne x) {
         x.change(0, 0, 9);
+        x.change(0, 2, 9);
+        x.change(0, 4, 9);
         x.change(0, 5, 3);
         x.order(1, Due.HALT, 0);
         x.part();
@@ -65,7 +71,7 @@ public final class ImageTest {
         x.choose(2, false);
         x.feed(-1, 4);
         x.pack(1);
-        x.run(1, false, 1);
+        x.run(0, false, 100);
         x.program();
     }
 
@@ -101,9 +107,15 @@ public final class ImageTest {
         Due.due("nothing was chosen", x.take(), Due.NONE);
         Due.due("a program", x.program(), 0);
         Due.due("without orders", x.tell(0, 0, 0), Due.NONE);
-        x.order(0, Due.ADD, 0);
+        x.order(0, Due.REST, 0);
         Due.due("to which none leads", x.tell(0, 0, 3), 0);
         Due.due("that were not done", x.tell(0, 0, 2), 0);
+        x.run(0, false, 100);
+        x.again(2);
+        x.feed(0x04000000, 1);
+        Due.due("read", x.read(), 0);
+        Due.due("nor these", x.tell(0, 0, 2), 0);
+        Due.due("cost by runs", x.cost(true), 0);
     }
 
     private static void imagesStay() {

@@ -5,6 +5,7 @@ public final class RunTest {
         numbersGoAround();
         wantsMoreThanThePileHas();
         tooManyOnThePile();
+        fullPileAndOtherKinds();
         tooManyOut();
         whereItEnds();
         asManyAsWereTold();
@@ -60,7 +61,7 @@ public final class RunTest {
     }
 
     private static void numbersGoAround() {
-        // 2 to the 31st by five times squared 2, twice: 2^32 is 0, so 2^16 * 2^15.
+        // 2 squared four times is 2^16, and 64 * 64 * 8 is 2^15: together the least number, less 1 the greatest.
         pile("times and add", Due.row(Due.PUSH, 2, Due.TWICE, 0, Due.TIMES, 0, Due.TWICE, 0, Due.TIMES, 0,
             Due.TWICE, 0, Due.TIMES, 0, Due.TWICE, 0, Due.TIMES, 0, Due.PUSH, 64, Due.TWICE, 0, Due.TIMES, 0,
             Due.PUSH, 8, Due.TIMES, 0, Due.TIMES, 0, Due.TWICE, 0, Due.PUSH, 1, Due.TAKE, 0, Due.TWICE, 0,
@@ -115,6 +116,24 @@ public final class RunTest {
             Due.due("top", x.had(0, 23), 22);
             Due.due("above", x.had(0, 24), 0);
             Due.due("times", x.tell(0, 25, 2), 0);
+        }
+    }
+
+    private static void fullPileAndOtherKinds() {
+        int[] left = {0, 23, 23, 23, 0, 24, 23, 0, 23, 24, 23, 23, 23, 24, 24, 24};
+        for (int kind = 0; kind < 16; kind++) {
+            OrdersMadeOne x = new OrdersMadeOne();
+            x.program();
+            for (int k = 1; k <= 24; k++) {
+                Due.add(x, 0, Due.PUSH, k);
+            }
+            x.order(0, kind, 0);
+            if (kind == Due.GO || kind == Due.IF) {
+                x.change(0, 24, 30);
+            }
+            boolean puts = left[kind] == 0;
+            Due.due("24 on the pile, then " + kind, x.run(0, false, 100), puts ? 2 : 0);
+            Due.due("pile behind " + kind, x.ran(2), puts ? 24 : left[kind]);
         }
     }
 
