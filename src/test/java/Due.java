@@ -1,3 +1,5 @@
+import java.util.Arrays;
+
 /** What the tests share: answers that are due, and short ways to write PROGRAMS. */
 final class Due {
     static final int PUSH = 0;
@@ -24,15 +26,25 @@ final class Due {
         9, 10, 12, 13, 15, 16, 23, 24, 25, 39, 40, 41, 127, 128, 255, 256, 19999, 20000, 20001,
         Integer.MAX_VALUE - 1, Integer.MAX_VALUE};
 
+    /** 2^31 below zero, and the greatest number, by ORDERS that need no number to go around. */
+    static final int[] LEAST_NUMBER = {PUSH, 64, TWICE, 0, TIMES, 0, TWICE, 0, TIMES, 0, PUSH, -128, TIMES, 0};
+    static final int[] GREATEST_NUMBER = behind(LEAST_NUMBER, PUSH, 1, ADD, 0, PUSH, -1, TIMES, 0);
+
     private static int wrong = 0;
+    private static String about = "";
 
     private Due() {
+    }
+
+    /** The sentence of the document by which the answers from here on are due. */
+    static void about(String sentence) {
+        about = "\"" + sentence + "\" ";
     }
 
     static void due(String call, long got, long want) {
         if (got != want) {
             wrong++;
-            System.out.println(call + " answered " + got + ", due is " + want);
+            System.out.println(about + call + " answered " + got + ", due is " + want);
         }
     }
 
@@ -102,5 +114,50 @@ final class Due {
 
     static int[] row(int... kinds) {
         return kinds;
+    }
+
+    static int[] behind(int[] orders, int... more) {
+        int[] all = Arrays.copyOf(orders, orders.length + more.length);
+        System.arraycopy(more, 0, all, orders.length, more.length);
+        return all;
+    }
+
+    /** The same ORDERS so many times. */
+    static int[] times(int n, int... orders) {
+        int[] all = {};
+        for (int k = 0; k < n; k++) {
+            all = behind(all, orders);
+        }
+        return all;
+    }
+
+    static void duePile(String what, OrdersMadeOne x, int... numbers) {
+        due(what + ": on the pile", x.ran(2), numbers.length);
+        for (int k = 0; k < numbers.length; k++) {
+            due(what + ": number " + k + " of the pile", x.had(0, k), numbers[k]);
+        }
+        due(what + ": above the pile", x.had(0, numbers.length), 0);
+    }
+
+    static void dueOut(String what, OrdersMadeOne x, int... numbers) {
+        due(what + ": out", x.ran(3), numbers.length);
+        for (int k = 0; k < numbers.length; k++) {
+            due(what + ": number " + k + " out", x.had(1, k), numbers[k]);
+        }
+        due(what + ": behind those out", x.had(1, numbers.length), 0);
+    }
+
+    /** ORDERS done, and the place at which the RUN ENDS. */
+    static void dueDone(String what, OrdersMadeOne x, int done, int place) {
+        due(what + ": done", x.ran(0), done);
+        due(what + ": place", x.ran(4), place);
+    }
+
+    static void dueOrders(String what, OrdersMadeOne x, int program, int... orders) {
+        due(what + ": orders", x.count(10 + program), orders.length / 2);
+        for (int k = 0; k + 1 < orders.length; k += 2) {
+            due(what + ": kind at " + k / 2, x.tell(program, k / 2, 0), orders[k]);
+            due(what + ": argument at " + k / 2, x.tell(program, k / 2, 1), orders[k + 1]);
+        }
     }
 }
