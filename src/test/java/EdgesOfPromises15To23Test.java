@@ -290,6 +290,15 @@ public final class EdgesOfPromises15To23Test {
         Due.due("bytes told", x.count(5), 0);
         Due.due("the other one has none", x.count(10), 0);
         Due.due("order", x.order(1, Due.REST, 0), 8);
+        // One that ran, and is gone again, leaves nothing in its place.
+        x.image(0);
+        Due.write(x, Due.REST, 0, Due.GO, 0);
+        x.run(2, false, 9);
+        x.again(0);
+        x.feed(0x0e0e0000, 2);
+        Due.due("read", x.read(), 2);
+        Due.due("none was done", x.tell(2, 0, 2), 0);
+        Due.due("no way leads there", x.tell(2, 0, 3), 0);
         // Into the midst of a row, where pack would have made no CODE of it: that is no reason to be none.
         OrdersMadeOne y = fed(17, 0, 9, 2);
         Due.due("read", y.read(), 0);
@@ -503,17 +512,20 @@ public final class EdgesOfPromises15To23Test {
     }
 
     private static void changeAll(OrdersMadeOne x) {
+        x.read();
+        x.feed(0x0d0e0d0e, 4);
+        x.program();
+        x.order(0, Due.PUSH, 9);
         x.change(0, 0, 6);
         x.order(1, Due.GO, 2);
         x.part();
         x.join(3, 1, 2, 3, 0);
+        x.run(0, false, 100);
         x.choose(2, true);
-        x.feed(-1, 4);
-        x.pack(1);
-        x.run(1, false, 100);
-        x.run(0, true, 1);
-        x.program();
         x.take();
+        x.choose(1, false);
+        x.pack(1);
+        x.run(0, true, 1);
     }
 
     private static void imageAnotherK() {

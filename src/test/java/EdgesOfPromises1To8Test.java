@@ -1,6 +1,7 @@
 /** Promises 1 to 8: a method for each sentence that names an edge, with all calls that it refuses. */
 public final class EdgesOfPromises1To8Test {
-    private static final int[] BELOW_AND_ABOVE = {Integer.MIN_VALUE, -1000, -2, -1, 3, 4, 16, 40, 256, Integer.MAX_VALUE};
+    private static final int[] BELOW_AND_ABOVE = {Integer.MIN_VALUE, -1000, -2, -1, 3, 4, 16, 40, 256,
+        Integer.MAX_VALUE};
 
     public static void main(String[] args) {
         noProgramsYet();

@@ -285,7 +285,8 @@ public final class EdgesOfPromises9To14Test {
     }
 
     private static void ranPlace() {
-        Due.about("ran: 4: the place at which it ENDS (that of an ORDER that was not done, or of halt; behind the last one)");
+        Due.about("ran: 4: the place at which it ENDS (that of an ORDER that was not done, or of halt; "
+            + "behind the last one)");
         OrdersMadeOne x = new OrdersMadeOne();
         Due.write(x, Due.REST, 0, Due.DROP, 0);
         int[][] ends = {{0, 3, 0}, {1, 3, 1}, {2, 1, 1}};

@@ -300,7 +300,8 @@ public final class EdgesOfTerms2To4Test {
     }
 
     private static void costByRuns() {
-        Due.about("how often the ORDER at its beginning was done in the latest RUN of that PROGRAM that was not PACKED");
+        Due.about("how often the ORDER at its beginning was done in the latest RUN of that PROGRAM "
+            + "that was not PACKED");
         OrdersMadeOne x = new OrdersMadeOne();
         Due.write(x, Due.REST, 0, Due.REST, 0, Due.GO, 1);
         Due.write(x, Due.MORE, 0);

@@ -8,6 +8,7 @@ public final class NewObjectTest {
             Due.due("count " + what, x.count(what), counts[what]);
         }
         for (int k : Due.ODD) {
+            x = new OrdersMadeOne();
             Due.due("again " + k, x.again(k), false);
             Due.due("ran " + k, x.ran(k), Due.NONE);
             Due.due("bytes " + k, x.bytes(k), Due.NONE);

@@ -38,19 +38,10 @@ public final class ReadTest {
         x.feed(0xff777777, 1);
         x.feed(0x0400ff99, 3);
         Due.due("read", x.read(), 0);
-        int[][] orders = {{Due.PUSH, 1}, {Due.ADD, 0}, {Due.PUSH, -1}, {Due.TWICE, 0}, {Due.PUSH, -1}};
-        dueOrders("four by four", x, 0, orders);
+        Due.dueOrders("four by four", x, 0, Due.PUSH, 1, Due.ADD, 0, Due.PUSH, -1, Due.TWICE, 0, Due.PUSH, -1);
         Due.due("told ones are none then", x.count(5), 0);
         Due.due("nothing told is a program without orders", x.read(), 1);
         Due.due("its orders", x.count(11), 0);
-    }
-
-    private static void dueOrders(String what, OrdersMadeOne x, int program, int[]... orders) {
-        Due.due(what + ": orders", x.count(10 + program), orders.length);
-        for (int place = 0; place < orders.length; place++) {
-            Due.due(what + ": kind at " + place, x.tell(program, place, 0), orders[place][0]);
-            Due.due(what + ": argument at " + place, x.tell(program, place, 1), orders[place][1]);
-        }
     }
 
     private static void readOrders() {
@@ -83,8 +74,7 @@ public final class ReadTest {
         x.feed(0x11800705, 4);
         x.feed(0x10100000, 1);
         Due.due("read", x.read(), 0);
-        dueOrders("joined", x, 0, new int[][] {{Due.PUSH, -128}, {Due.ADD, 0}, {Due.SET, 7}, {Due.IF, 5},
-            {Due.ADD, 0}, {Due.ADD, 0}});
+        Due.dueOrders("joined", x, 0, Due.PUSH, -128, Due.ADD, 0, Due.SET, 7, Due.IF, 5, Due.ADD, 0, Due.ADD, 0);
         Due.due("ways lead", x.tell(0, 5, 3), 1);
         x.feed(0x11800708, 4);
         Due.due("read by those that there are", x.read(), 1);
